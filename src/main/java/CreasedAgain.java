@@ -15,8 +15,11 @@ public final class CreasedAgain {
     /** The bits of as many parts as there can be. */
     private static final int ALL = 127;
 
-    // What of the shirt is set and told; the first six are the document's numbers.
-    private static final int HEAT = 0, DAMP = 1, NUMBER = 2, CREASES = 3, LIES = 4, KIND = 5, RULE = 6;
+    // What is set and told: the document's numbers.
+    private static final int HEAT = 0, DAMP = 1, NUMBER = 2, CREASES = 3, LIES = 4, KIND = 5;
+    private static final int SHOWS = 6, KEEPS = 7, TAKES = 8, CRUMPLES = 9;
+    // The rule is tried on like these, but never set or told by a number.
+    private static final int RULE = 10;
     private static final int[] MOST = {9, 99, 9, 99, 127, 5};
 
     private final Shirt now = new Shirt();
@@ -51,21 +54,21 @@ public final class CreasedAgain {
     }
 
     public int told(int of, int what) {
-        if (what < HEAT || what > 9 || isNoPart(what, of)) {
+        if (what < HEAT || what > CRUMPLES || isNoPart(what, of)) {
             return BAD;
         }
         if (what <= KIND) {
             return now.item(what, of);
         }
-        if (what == 6) {
+        if (what == SHOWS) {
             return Kinds.shows(now.kind[of]);
         }
         ironing.begin(now);
         int crease = now.creases[of];
-        if (what == 7) {
+        if (what == KEEPS) {
             return ironing.keeps(of, crease);
         }
-        return what == 8 ? ironing.takes(of, crease) : ironing.crumples(of, crease);
+        return what == TAKES ? ironing.takes(of, crease) : ironing.crumples(of, crease);
     }
 
     public int iron(int part) {
@@ -330,6 +333,7 @@ public final class CreasedAgain {
         if (!sheets.has(sheet) || sort < Sheets.BYTES || sort > Sheets.INTS || n < 0 || n > PARTS) {
             return BAD;
         }
+        // What is missing is of no sort that could be another, so that -13 is not ahead of -11 here.
         if (sheets.isMissing(sheet)) {
             return MISSING;
         }
@@ -338,7 +342,7 @@ public final class CreasedAgain {
         }
         int came = 0;
         for (int i = 0; i < n; i++) {
-            // Past the last sheet's item nothing is read, so that from + 2 * i can't matter when it wraps.
+            // This never wraps: the first place outside ends it.
             int at = from + 2 * i;
             if (!sheets.hasItem(sheet, at) || !sheets.hasItem(sheet, at + 1)) {
                 return OUTSIDE;
@@ -622,7 +626,7 @@ public final class CreasedAgain {
                 int step = row[i];
                 if (step < NAME) {
                     stack[top++] = step;
-                } else if (step < NEGATE) {
+                } else if (step < NAME + NAMES) {
                     stack[top++] = names[step - NAME];
                 } else if (step <= NOT && top > 0) {
                     int one = stack[top - 1];
