@@ -309,6 +309,12 @@ public final class PromiseTests {
         fault("irons 1;crumples 2;", 8);
         fault("irons heats;", 6);
         fault("irons Heat;", 6);
+        fault("irons heatz;", 6);
+        fault("irons zheat;", 6);
+        fault("irons teat;", 6);
+        fault("irons hea;", 6);
+        fault("irons 1 ind 2;", 8);
+        fault("irons crumpled;", 6);
         fault("irons heat9;", 10);
         fault("irons 9heat;", 7);
         fault("ironsheat;", 0);
@@ -614,6 +620,15 @@ public final class PromiseTests {
         due("change(2)", x.change(2), -2);
         due("change(-1)", x.change(-1), -2);
         due("nothing was ironed", x.count(4), 250);
+        promise("13 change, of seven");
+        // each of the first lies on all behind it, so that none of these may come later; 6 lies on 5
+        for (int i = 0; i < 7; i++) {
+            x.part(0, 0);
+            x.set(4, i, i < 5 ? 127 >> i + 1 << i + 1 : 0);
+        }
+        x.set(4, 6, 32);
+        due("the last two", x.change(0), 56);
+        due("creased then", x.change(1), 28);
     }
 
     private static void leave() {
@@ -736,6 +751,14 @@ public final class PromiseTests {
         due("-1", x.enough(-1), -2);
         due("10000", x.enough(10000), -2);
         due("nothing was ironed", x.count(4), 130);
+        promise("17 enough, of seven");
+        for (int i = 0; i < 7; i++) {
+            x.part(0, 0);
+        }
+        due("all seven", x.enough(28), 127);
+        due("no fewer", x.enough(27), -1);
+        due("six", x.enough(74), 63);
+        due("nothing was ironed", x.count(4), 350);
     }
 
     private static void tells() {
