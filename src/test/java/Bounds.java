@@ -49,13 +49,13 @@ final class Bounds {
         return text.replaceAll("\\s+", " ");
     }
 
-    /** The tests that follow are named after this one: Terms, or Promise 1 .. 29, and words that stand there. */
+    /** The tests that follow are named after this one: What it is, Terms, or Promise 1 .. 29, and words there. */
     void sentence(String heading, String words) {
         sentence = heading + ", \"" + words + "\"";
         if (document.isEmpty()) {
             return;
         }
-        int from = document.indexOf(heading.equals("Terms") ? "## Terms " : "## " + heading + ":");
+        int from = document.indexOf("## " + heading + (heading.startsWith("Promise") ? ":" : " "));
         int till = document.indexOf(" ## ", from + 3);
         String section = from < 0 ? "" : document.substring(from, till < 0 ? document.length() : till);
         check("the document says so", section.contains(squeeze(words)), "it does not");
@@ -174,7 +174,7 @@ final class Bounds {
         }
     }
 
-    /** Its sort, its size, and its items, as far as they are 0 .. 99: where the image has one PART, and TEXT 1 keeps. */
+    /** Its sort, its size, and (where the image has one PART, and TEXT 1 keeps) its items that are 0 .. 99. */
     private static void askSheet(List<Long> all, CreasedAgain x, int sheet) {
         int sort = -1;
         for (int i = 0; i < 3; i++) {

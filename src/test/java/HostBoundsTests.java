@@ -216,12 +216,14 @@ public final class HostBoundsTests {
 
     private static void copied(String which, int sort, int[] want, int i, int j, int n) {
         B.due(which + ", of sort " + sort, n, rows(sort), x -> x.copy(0, i, 1, j, n));
-        B.alike(which + ", of sort " + sort + ": what they are then", Bounds.then(rows(sort), x -> x.copy(0, i, 1, j, n)),
+        B.alike(which + ", of sort " + sort + ": what they are then",
+                Bounds.then(rows(sort), x -> x.copy(0, i, 1, j, n)),
                 Bounds.then(rows(sort), row(1, sort, want)));
     }
 
     private static void copy() {
-        B.sentence("Promise 27", "n numbers of a SHEET, from item i on, come to another one's item j on (as they were): n.");
+        B.sentence("Promise 27", "n numbers of a SHEET, from item i on, come to another one's item j on (as they"
+                + " were): n.");
         for (int sort = 0; sort < 3; sort++) {
             copied("none", sort, new int[] {21, 22, 23}, 0, 0, 0);
             copied("the first", sort, new int[] {11, 22, 23}, 0, 0, 1);
@@ -239,7 +241,8 @@ public final class HostBoundsTests {
             x.cell(2, 0, 8);
         };
         B.due("all of 40", 40, forty, x -> x.copy(2, 0, 3, 0, 40));
-        B.alike("all of 40: what they are then", Bounds.then(forty, x -> x.copy(2, 0, 3, 0, 40)), Bounds.then(forty, x -> {
+        B.alike("all of 40: what they are then", Bounds.then(forty, x -> x.copy(2, 0, 3, 0, 40)),
+                Bounds.then(forty, x -> {
             x.cell(3, 39, 7);
             x.cell(3, 0, 8);
         }));
@@ -253,7 +256,8 @@ public final class HostBoundsTests {
                     Bounds.then(rows(t), row(0, t, 11, 11, 12, 13)));
             B.alike("onto itself, back, of sort " + t, Bounds.then(rows(t), x -> x.copy(0, 1, 0, 0, 3)),
                     Bounds.then(rows(t), row(0, t, 12, 13, 14, 14)));
-            B.alike("onto itself, the first to the last, of sort " + t, Bounds.then(rows(t), x -> x.copy(0, 0, 0, 3, 1)),
+            B.alike("onto itself, the first to the last, of sort " + t,
+                    Bounds.then(rows(t), x -> x.copy(0, 0, 0, 3, 1)),
                     Bounds.then(rows(t), row(0, t, 11, 12, 13, 11)));
             B.changesNothing("onto itself, in place, of sort " + t, 4, rows(t), x -> x.copy(0, 0, 0, 0, 4));
         }
@@ -278,7 +282,8 @@ public final class HostBoundsTests {
             for (int j = 0; j <= 3; j++) {
                 int from = i;
                 int to = j;
-                B.changesNothing("none from " + i + " to " + j + " is inside", 0, rows(1), x -> x.copy(0, from, 1, to, 0));
+                B.changesNothing("none from " + i + " to " + j + " is inside", 0, rows(1),
+                        x -> x.copy(0, from, 1, to, 0));
             }
         }
         B.refused("none from behind the end", -12, rows(1), x -> x.copy(0, 5, 1, 0, 0));
@@ -317,7 +322,8 @@ public final class HostBoundsTests {
                 if (s != o) {
                     B.refused("sorts " + s + ", " + o, -13, Bounds.SOME, x -> x.copy(sheet, 0, other, 0, 1));
                     B.refused("sorts " + s + ", " + o + ", none", -13, Bounds.SOME, x -> x.copy(sheet, 0, other, 0, 0));
-                    B.refused("sorts " + s + ", " + o + ", outside", -13, Bounds.SOME, x -> x.copy(sheet, 9, other, -1, -1));
+                    B.refused("sorts " + s + ", " + o + ", outside", -13, Bounds.SOME,
+                            x -> x.copy(sheet, 9, other, -1, -1));
                 }
             }
         }
@@ -325,10 +331,10 @@ public final class HostBoundsTests {
 
     private static void copyOutside() {
         B.sentence("Promise 27", "-13: they are of unlike sorts; -12");
-        int[][] outside = {{-1, 0, 1}, {0, -1, 1}, {4, 0, 1}, {0, 3, 1}, {3, 0, 2}, {0, 2, 2}, {0, 0, 4}, {1, 0, 4}, {0, 0, 5},
-            {0, 1, 3}, {2, 1, 3}, {LOWEST, 0, 1}, {0, LOWEST, 1}, {HIGHEST, 0, 1}, {0, HIGHEST, 1}, {0, 0, HIGHEST},
-            {1, 1, HIGHEST}, {HIGHEST, 0, HIGHEST}, {0, HIGHEST, HIGHEST}, {HIGHEST, HIGHEST, 2}, {LOWEST, LOWEST, LOWEST},
-            {HIGHEST - 1, 0, 3}, {5, 0, LOWEST}, {-1, 0, HIGHEST}, {0, 0, 40}, {0, 0, 41}};
+        int[][] outside = {{-1, 0, 1}, {0, -1, 1}, {4, 0, 1}, {0, 3, 1}, {3, 0, 2}, {0, 2, 2}, {0, 0, 4}, {1, 0, 4},
+            {0, 0, 5}, {0, 1, 3}, {2, 1, 3}, {LOWEST, 0, 1}, {0, LOWEST, 1}, {HIGHEST, 0, 1}, {0, HIGHEST, 1},
+            {0, 0, HIGHEST}, {1, 1, HIGHEST}, {HIGHEST, 0, HIGHEST}, {0, HIGHEST, HIGHEST}, {HIGHEST, HIGHEST, 2},
+            {LOWEST, LOWEST, LOWEST}, {HIGHEST - 1, 0, 3}, {5, 0, LOWEST}, {-1, 0, HIGHEST}, {0, 0, 40}, {0, 0, 41}};
         for (int sort = 0; sort < 3; sort++) {
             int t = sort;
             for (int[] o : outside) {
@@ -343,8 +349,8 @@ public final class HostBoundsTests {
     }
 
     private static void parts() {
-        B.sentence("Promise 28", "from one on, two by two (as of part()), n of them (0 .. 7): how many came (others are left"
-                + " out).");
+        B.sentence("Promise 28", "from one on, two by two (as of part()), n of them (0 .. 7): how many came (others"
+                + " are left out).");
         for (int t = 0; t < 3; t++) {
             int sort = t;
             Bounds.Calls pairs = row(0, sort, 0, 0, 1, 1, 2, 2, 3, 3, 4, 4, 5, 5, 0, 9);
@@ -359,7 +365,8 @@ public final class HostBoundsTests {
                         }));
             }
             B.due("from the last pair on", 1, pairs, x -> x.parts(0, sort, 12, 1));
-            B.due("from an odd place on: KIND is what was a NUMBER", 1, row(0, sort, 9, 4, 7, 6), x -> x.parts(0, sort, 1, 1));
+            B.due("from an odd place on: KIND is what was a NUMBER", 1, row(0, sort, 9, 4, 7, 6),
+                    x -> x.parts(0, sort, 1, 1));
             B.due("its KIND", 4, row(0, sort, 9, 4, 7, 6), x -> {
                 x.parts(0, sort, 1, 1);
                 return x.told(0, 5);
@@ -419,7 +426,8 @@ public final class HostBoundsTests {
                 int sort = t;
                 if (s != t) {
                     B.refused("sort " + s + " taken for " + t, -13, Bounds.SOME, x -> x.parts(sheet, sort, 0, 1));
-                    B.refused("sort " + s + " taken for " + t + ", none", -13, Bounds.SOME, x -> x.parts(sheet, sort, 0, 0));
+                    B.refused("sort " + s + " taken for " + t + ", none", -13, Bounds.SOME,
+                            x -> x.parts(sheet, sort, 0, 0));
                     B.refused("sort " + s + " taken for " + t + ", outside", -13, Bounds.SOME,
                             x -> x.parts(sheet, sort, -1, 7));
                 }
@@ -450,14 +458,17 @@ public final class HostBoundsTests {
                         x.part(3, 8);
                     }));
         }
-        B.alike("from 2 on: one came", Bounds.then(five, x -> x.parts(1, 1, 2, 7)), Bounds.then(five, x -> x.part(3, 8)));
+        B.alike("from 2 on: one came", Bounds.then(five, x -> x.parts(1, 1, 2, 7)),
+                Bounds.then(five, x -> x.part(3, 8)));
         B.alike("from 3 on: none that could", Bounds.then(five, x -> x.parts(1, 1, 3, 7)), five);
         B.refused("of a row of none", -12, x -> x.sheet(0, 0, 0), x -> x.parts(0, 0, 0, 1));
         B.refused("of a row of one", -12, x -> x.sheet(0, 0, 1), x -> x.parts(0, 0, 0, 1));
         B.refused("where nothing has room", -12, Bounds.BRIMFUL, x -> x.parts(0, 0, 39, 1));
         B.refused("where nothing has room, behind others", -12, Bounds.BRIMFUL, x -> x.parts(0, 0, 36, 3));
-        B.refused("behind others that are left out", -12, x -> Bounds.row(x, 0, 0, 6, 0, 0, 10), x -> x.parts(0, 0, 0, 3));
-        B.due("what was an item of a longer one", -12, Bounds.then(five, x -> x.sheet(1, 1, 2)), x -> x.parts(1, 1, 0, 2));
+        B.refused("behind others that are left out", -12, x -> Bounds.row(x, 0, 0, 6, 0, 0, 10),
+                x -> x.parts(0, 0, 0, 3));
+        B.due("what was an item of a longer one", -12, Bounds.then(five, x -> x.sheet(1, 1, 2)),
+                x -> x.parts(1, 1, 0, 2));
     }
 
     private static void taken() {

@@ -35,8 +35,8 @@ public final class OrdersBoundsTests {
     }
 
     private static void plain() {
-        B.sentence("Promise 9", "PLAIN: CREASED (what 0), MINUTES (1); of PART what modulo 10 CREASES at last (10 ..), the"
-                + " MINUTE behind which it was ironed (20 ..).");
+        B.sentence("Promise 9", "PLAIN: CREASED (what 0), MINUTES (1); of PART what modulo 10 CREASES at last (10"
+                + " ..), the MINUTE behind which it was ironed (20 ..).");
         B.changesNothing("no PARTS: CREASED", 0, Bounds.NEW, x -> x.plain(0));
         B.changesNothing("no PARTS: MINUTES", 0, Bounds.NEW, x -> x.plain(1));
         B.changesNothing("CREASED", 8 + 5 + 6, RING, x -> x.plain(0));
@@ -81,7 +81,8 @@ public final class OrdersBoundsTests {
     }
 
     private static void order() {
-        B.sentence("Promise 10", "By a SHEET's order (some PARTS, none twice): likewise (20 ..: NONE, if it isn't ironed).");
+        B.sentence("Promise 10", "By a SHEET's order (some PARTS, none twice): likewise (20 ..: NONE, if it isn't"
+                + " ironed).");
         for (int sort = 0; sort < 3; sort++) {
             B.changesNothing("no PARTS, of sort " + sort, 0, row(Bounds.NEW, sort), x -> x.order(0, 0));
             Bounds.Calls none = row(RING, sort);
@@ -102,6 +103,19 @@ public final class OrdersBoundsTests {
                 x -> x.order(0, 26));
         B.due("all of seven, the last first: MINUTE of 0", 14, row(Bounds.parts(7), 0, 6, 5, 4, 3, 2, 1, 0),
                 x -> x.order(0, 20));
+        B.due("behind another call: nothing of its order is left", 54 + 50 + 6, row(RING, 0, 2), x -> {
+            x.best(0);
+            return x.order(0, 0);
+        });
+        B.due("behind a refused one: nothing of its order is left", 54 + 50 + 6, row(RING, 0, 2), x -> {
+            Bounds.row(x, 1, 0, 0, 1, 1);
+            x.order(1, 0);
+            return x.order(0, 0);
+        });
+        B.due("again the same", 54 + 50 + 6, row(RING, 0, 2), x -> {
+            x.order(0, 0);
+            return x.order(0, 0);
+        });
         B.due("SHEET 3", 4, Bounds.parts(1), x -> {
             Bounds.row(x, 3, 0, 0);
             return x.order(3, 0);
@@ -121,7 +135,8 @@ public final class OrdersBoundsTests {
         B.refused("a missing one", -11, Bounds.SOME, x -> x.order(3, 0));
         B.refused("a missing one, the largest what", -11, Bounds.SOME, x -> x.order(3, 22));
         B.refused("a missing one, no PARTS", -11, Bounds.NEW, x -> x.order(0, 1));
-        B.refused("one that is missing again", -11, Bounds.then(Bounds.SOME, x -> x.sheet(2, -1, 3)), x -> x.order(2, 0));
+        B.refused("one that is missing again", -11, Bounds.then(Bounds.SOME, x -> x.sheet(2, -1, 3)),
+                x -> x.order(2, 0));
     }
 
     private static void orderWhat() {
@@ -130,7 +145,8 @@ public final class OrdersBoundsTests {
             int there = many;
             for (int w = -12; w < 50; w++) {
                 int what = w;
-                B.due("what " + what + " of " + many + " PARTS", isOfOrder(what, many) ? 1 : 0, row(Bounds.parts(there), 0),
+                B.due("what " + what + " of " + many + " PARTS", isOfOrder(what, many) ? 1 : 0,
+                        row(Bounds.parts(there), 0),
                         x -> x.order(0, what) == -2 ? 0 : 1);
             }
         }
@@ -199,7 +215,8 @@ public final class OrdersBoundsTests {
     }
 
     private static void change() {
-        B.sentence("Promise 13", "CHANGE: 10 times the one, and the other (what 0; NONE), CREASED then (1; PLAIN, if none). BAD.");
+        B.sentence("Promise 13", "CHANGE: 10 times the one, and the other (what 0; NONE), CREASED then (1; PLAIN,"
+                + " if none). BAD.");
         B.changesNothing("no PARTS: NONE", -1, Bounds.NEW, x -> x.change(0));
         B.changesNothing("no PARTS: PLAIN", 0, Bounds.NEW, x -> x.change(1));
         B.changesNothing("one PART: NONE", -1, Bounds.parts(1), x -> x.change(0));

@@ -5,6 +5,7 @@ public final class ShirtBoundsTests {
     private static final int HIGHEST = Bounds.HIGHEST;
 
     public static void main(String[] args) {
+        manyCalls();
         aNewObject();
         setHeatAndDamp();
         setOfPart();
@@ -24,6 +25,48 @@ public final class ShirtBoundsTests {
         force();
         forceRefused();
         B.end();
+    }
+
+    /** The last of 512 calls, of which the first so many were others. */
+    private static void last(String which, long want, int others, Bounds.Calls before, Bounds.Call call) {
+        B.due(which, want, x -> {
+            before.on(x);
+            for (int i = others; i < 511; i++) {
+                call.on(x);
+            }
+        }, call);
+    }
+
+    private static void manyCalls() {
+        B.sentence("What it is", "An object is used for at most 512 calls after it has been made");
+        last("part", -4, 0, Bounds.NEW, x -> x.part(0, 0));
+        last("set", 9, 0, Bounds.NEW, x -> x.set(0, 0, 9));
+        last("iron", 4, 1, Bounds.parts(1), x -> x.iron(0));
+        last("feed", -4, 0, Bounds.NEW, x -> x.feed(' '));
+        last("text", -100, 0, Bounds.NEW, x -> x.text());
+        last("force", 0, 0, Bounds.NEW, x -> x.force(0));
+        last("told", 4, 7, Bounds.parts(7), x -> x.told(6, 7));
+        last("plain", 28, 7, Bounds.parts(7), x -> x.plain(0));
+        last("best", 1234567, 7, Bounds.parts(7), x -> x.best(1));
+        last("worst", 1234567, 7, Bounds.parts(7), x -> x.worst(1));
+        last("change", 28, 7, Bounds.parts(7), x -> x.change(1));
+        last("leave", 28, 7, Bounds.parts(7), x -> x.leave(1));
+        last("spray", 28, 7, Bounds.parts(7), x -> x.spray(1));
+        last("how", 0, 7, Bounds.parts(7), x -> x.how(3));
+        last("enough", 127, 7, Bounds.parts(7), x -> x.enough(28));
+        last("film", 7, 7, Bounds.parts(7), x -> x.film(0));
+        last("tells", 100, 8, Bounds.then(Bounds.parts(7), x -> x.film(0)), x -> x.tells(0, 36));
+        last("order", -2, 8, Bounds.then(Bounds.parts(7), x -> x.film(0)), x -> x.order(0, 0));
+        last("drawn", 28, 7, Bounds.parts(7), x -> x.drawn(-1));
+        last("chance", 1, 7, Bounds.parts(7), x -> x.chance(-1, 20, 1));
+        last("image", 7, 7, Bounds.parts(7), x -> x.image());
+        last("back", 7, 8, Bounds.then(Bounds.parts(7), x -> x.image()), x -> x.back());
+        last("count", 350, 7, Bounds.parts(7), x -> x.count(4));
+        last("sheet", 1, 0, Bounds.NEW, x -> x.sheet(0, 2, 40));
+        last("cell", 1, 1, x -> x.sheet(0, 2, 40), x -> x.cell(0, 39, 7));
+        last("copy", 39, 1, x -> x.sheet(0, 2, 40), x -> x.copy(0, 0, 0, 1, 39));
+        last("parts", 0, 1, x -> x.sheet(0, 2, 40), x -> x.parts(0, 2, 0, 7));
+        last("taken", 0, 7, Bounds.parts(7), x -> x.taken(6, 0));
     }
 
     private static void aNewObject() {
@@ -321,8 +364,8 @@ public final class ShirtBoundsTests {
     }
 
     private static void text() {
-        B.sentence("Promise 7", "THE TAPE, which is empty then (by a FAULT, too), is a TEXT: its number; -100 less the place of"
-                + " its FAULT.");
+        B.sentence("Promise 7", "THE TAPE, which is empty then (by a FAULT, too), is a TEXT: its number; -100 less"
+                + " the place of its FAULT.");
         B.changesNothing("of an empty tape", -100, Bounds.NEW, x -> x.text());
         B.due("the FAULT at the end of a full tape", -260, x -> Bounds.write(x, " ".repeat(160)), x -> x.text());
         B.due("the FAULT at its last byte", -259, x -> Bounds.write(x, " ".repeat(159) + "1"), x -> x.text());
@@ -396,7 +439,8 @@ public final class ShirtBoundsTests {
             B.refused("no such TEXT " + none, -2, Bounds.SOME, x -> x.force(none));
         }
         B.refused("TEXT 1, where there is TEXT 0 alone", -2, Bounds.NEW, x -> x.force(1));
-        B.refused("TEXT 1, where there was a FAULT", -2, x -> Bounds.text(x, "irons 1;takes 1;crumples 1"), x -> x.force(1));
+        B.refused("TEXT 1, where there was a FAULT", -2, x -> Bounds.text(x, "irons 1;takes 1;crumples 1"),
+                x -> x.force(1));
         B.refused("TEXT 6, where there are six", -2, Bounds.BRIMFUL, x -> x.force(6));
     }
 }

@@ -45,9 +45,11 @@ public final class TermsOrdersTests {
     }
 
     private static void ironing() {
-        B.sentence(TERMS, "(MINUTES 0 at first): TAKES is told, and KEEPS; MINUTES are so many more, it has so many CREASES");
+        B.sentence(TERMS, "(MINUTES 0 at first): TAKES is told, and KEEPS; MINUTES are so many more, it has so many"
+                + " CREASES");
         B.due("no PARTS: no MINUTES", 0, Bounds.NEW, x -> x.plain(1));
-        B.due("MINUTES are 0 as the first one TAKES", 1, by(2, "irons 1;takes 1+9*minute;crumples 0;"), x -> x.plain(20));
+        B.due("MINUTES are 0 as the first one TAKES", 1, by(2, "irons 1;takes 1+9*minute;crumples 0;"),
+                x -> x.plain(20));
         B.due("and 1 as the second one does", 11, by(2, "irons 1;takes 1+9*minute;crumples 0;"), x -> x.plain(21));
         B.due("KEEPS is told ahead of its own MINUTES", 0, by(2, "irons minute;takes 7;crumples 0;"), x -> x.plain(10));
         B.due("and behind those of the others", 7, by(2, "irons minute;takes 7;crumples 0;"), x -> x.plain(11));
@@ -188,8 +190,8 @@ public final class TermsOrdersTests {
     }
 
     private static void change() {
-        B.sentence(TERMS, "CHANGE: the two places of PLAIN, the lesser first, by whose changing CREASED would be least, if"
-                + " less than PLAIN; of like ones the first.");
+        B.sentence(TERMS, "CHANGE: the two places of PLAIN, the lesser first, by whose changing CREASED would be"
+                + " least, if less than PLAIN; of like ones the first.");
         for (int many = 0; many < 8; many++) {
             B.due(many + " PARTS alike: NONE", -1, Bounds.parts(many), x -> x.change(0));
             B.due(many + " PARTS alike: PLAIN", 4 * many, Bounds.parts(many), x -> x.change(1));
@@ -228,8 +230,8 @@ public final class TermsOrdersTests {
     }
 
     private static void leave() {
-        B.sentence(TERMS, "LEAVE: the PART without which (it stays as it is) PLAIN, CREASED would be least, if less than"
-                + " PLAIN; of like ones the first.");
+        B.sentence(TERMS, "LEAVE: the PART without which (it stays as it is) PLAIN, CREASED would be least, if less"
+                + " than PLAIN; of like ones the first.");
         B.due("no PARTS: NONE", -1, Bounds.NEW, x -> x.leave(0));
         B.due("no PARTS: PLAIN", 0, Bounds.NEW, x -> x.leave(1));
         for (int creases = 3; creases < 6; creases++) {
@@ -258,9 +260,9 @@ public final class TermsOrdersTests {
     }
 
     private static void spray() {
-        B.sentence(TERMS, "SPRAY: the place k of PLAIN (0 .. how many PARTS there are less 1) ahead of which, were it so DAMP"
-                + " as at first again (MINUTES for damp from 0 on), CREASED would be least, if less than PLAIN; of like ones"
-                + " the first.");
+        B.sentence(TERMS, "SPRAY: the place k of PLAIN (0 .. how many PARTS there are less 1) ahead of which, were"
+                + " it so DAMP as at first again (MINUTES for damp from 0 on), CREASED would be least, if less than"
+                + " PLAIN; of like ones the first.");
         B.due("no PARTS: NONE", -1, Bounds.NEW, x -> x.spray(0));
         B.due("no PARTS: PLAIN", 0, Bounds.NEW, x -> x.spray(1));
         Bounds.Calls one = by(1, "irons 9 - damp;takes 1;crumples 0;");
@@ -287,7 +289,8 @@ public final class TermsOrdersTests {
         });
         B.due("as much as PLAIN is not less", -1, by(7, "irons 9 - (damp < 99);takes 1;crumples 0;"), x -> x.spray(0));
         // damp 6 4 2 0 ahead of each; from place 2 on 6 4 again, MINUTES are 0 2 4 6 all the same
-        B.due("MINUTES themselves go on", 4 + 6 + 4 + 6 + 12, by(4, "irons 10 - damp + minute;takes 2;crumples 0;"), x -> {
+        B.due("MINUTES themselves go on", 4 + 6 + 4 + 6 + 12, by(4, "irons 10 - damp + minute;takes 2;crumples 0;"),
+                x -> {
             x.set(1, 0, 6);
             return x.spray(1);
         });
@@ -300,8 +303,8 @@ public final class TermsOrdersTests {
     }
 
     private static void howDamp() {
-        B.sentence(TERMS, "HOW DAMP, HOW HOT: DAMP 0 .. 99, HEAT 0 .. 9 by which PLAIN, CREASED would be least; of like ones"
-                + " the least.");
+        B.sentence(TERMS, "HOW DAMP, HOW HOT: DAMP 0 .. 99, HEAT 0 .. 9 by which PLAIN, CREASED would be least; of"
+                + " like ones the least.");
         how("DAMP does not matter", "7", 0, 0, 14);
         how("the more the better: 99", "99 - damp", 0, 99, 1);
         how("98 is not enough", "50 - 9 * (98 < damp)", 0, 99, 91);
@@ -325,8 +328,8 @@ public final class TermsOrdersTests {
     }
 
     private static void enough() {
-        B.sentence(TERMS, "ENOUGH (k 0 .. 9999): the fewest PARTS (bits; of like ones the least as bits) which, ironed by"
-                + " numbers, make CREASED k or less; NONE.");
+        B.sentence(TERMS, "ENOUGH (k 0 .. 9999): the fewest PARTS (bits; of like ones the least as bits) which,"
+                + " ironed by numbers, make CREASED k or less; NONE.");
         B.due("no PARTS, k 0", 0, Bounds.NEW, x -> x.enough(0));
         B.due("the largest k", 0, Bounds.parts(7), x -> x.enough(9999));
         B.refused("the first below", -2, Bounds.SOME, x -> x.enough(-1));
@@ -510,7 +513,8 @@ public final class TermsOrdersTests {
 
     private static void drawn() {
         B.sentence(TERMS, "(z >>> 9) % 100, z being z * 1103515245 + 12345 (an int; SEED at first) anew for each");
-        for (int seed : new int[] {0, 1, 2, -1, -2, 12345, -740551042, Bounds.LOWEST, Bounds.LOWEST + 1, Bounds.HIGHEST}) {
+        for (int seed : new int[] {0, 1, 2, -1, -2, 12345, -740551042, Bounds.LOWEST, Bounds.LOWEST + 1,
+                Bounds.HIGHEST}) {
             for (int many = 0; many < 8; many++) {
                 B.due("SEED " + seed + ", of " + many, sum(drawnBy(seed, many)), by(many, IDLE), x -> x.drawn(seed));
             }
@@ -546,8 +550,8 @@ public final class TermsOrdersTests {
     }
 
     private static void seeds() {
-        B.sentence(TERMS, "IN n seeds (1 .. 20), SEED and each 1 more (an int): of these those by which WORST FIRST comes to"
-                + " no more than PLAIN.");
+        B.sentence(TERMS, "IN n seeds (1 .. 20), SEED and each 1 more (an int): of these those by which WORST FIRST"
+                + " comes to no more than PLAIN.");
         Bounds.Calls chain = x -> {
             Bounds.parts(4).on(x);
             x.set(4, 0, 2);
@@ -581,7 +585,8 @@ public final class TermsOrdersTests {
     }
 
     private static void anImage() {
-        B.sentence(TERMS, "AN IMAGE keeps HEAT, DAMP, NUMBERS, CREASES, on what all LIE, THE RULE (PARTS that came since go).");
+        B.sentence(TERMS, "AN IMAGE keeps HEAT, DAMP, NUMBERS, CREASES, on what all LIE, THE RULE (PARTS that came"
+                + " since go).");
         Bounds.Calls image = x -> {
             Bounds.SOME.on(x);
             x.image();
@@ -641,8 +646,8 @@ public final class TermsOrdersTests {
     }
 
     private static void sheets() {
-        B.sentence(TERMS, "SHEETS 0 .. 3 are rows of numbers, or missing (as all are at first): of sort 0 bytes, 1 shorts, 2"
-                + " ints.");
+        B.sentence(TERMS, "SHEETS 0 .. 3 are rows of numbers, or missing (as all are at first): of sort 0 bytes, 1"
+                + " shorts, 2 ints.");
         for (int sheet = 0; sheet < 4; sheet++) {
             int s = sheet;
             B.refused("missing at first: " + s, -11, Bounds.NEW, x -> x.cell(s, 0, 0));
@@ -651,7 +656,8 @@ public final class TermsOrdersTests {
                 B.due("sort " + t + " of " + s, 1, Bounds.NEW, x -> x.sheet(s, t, 1));
                 for (int other = 0; other < 3; other++) {
                     int o = other;
-                    B.changesNothing("sort " + t + " of " + s + " taken for " + o, o == t ? 0 : -13, x -> x.sheet(s, t, 1),
+                    B.changesNothing("sort " + t + " of " + s + " taken for " + o, o == t ? 0 : -13,
+                            x -> x.sheet(s, t, 1),
                             x -> x.parts(s, o, 0, 0));
                 }
             }

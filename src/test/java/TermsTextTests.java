@@ -7,6 +7,7 @@ public final class TermsTextTests {
 
     public static void main(String[] args) {
         tape();
+        emptyThen();
         tokens();
         words();
         numbers();
@@ -74,6 +75,34 @@ public final class TermsTextTests {
             x.text();
             Bounds.write(x, " ".repeat(159));
         }, x -> x.feed(' '));
+        fault(" ".repeat(155) + "irons", 160);
+        fault("irons 1" + "+1".repeat(74) + "+heat", 160);
+        fault("irons 1" + "+1".repeat(74) + "+9999", 160);
+        fault("irons 1" + "+1".repeat(74) + "+heap", 156);
+        fault("irons 1" + "+1".repeat(75) + "  ;", 160);
+    }
+
+    /** A tape, and behind its FAULT a shorter one: what stood on the longer one is gone. */
+    private static void shorter(String longer, String text, int answer) {
+        B.due(text + " behind " + longer, answer, x -> Bounds.text(x, longer), x -> Bounds.text(x, text));
+    }
+
+    private static void emptyThen() {
+        B.sentence("Promise 7", "THE TAPE, which is empty then (by a FAULT, too)");
+        shorter("irons heatheat", "irons heat", -110);
+        shorter("irons 99999999", "irons 9999", -110);
+        shorter("irons 1                 ;", "irons 1", -107);
+        shorter("irons 1;takes 2;crumples 3;;", "irons 1;takes 2;crumples 3", -126);
+        shorter("irons 1;takes 2;crumples 33", "irons 1;takes 2;crumples 3", -126);
+        shorter("x".repeat(160), "irons 1;takes 1;crumples 1;", 1);
+        for (int what = 7; what < 10; what++) {
+            int told = what;
+            B.due("what a FAULT ended is not told: " + told, told - 4, x -> {
+                x.part(0, 0);
+                Bounds.text(x, "irons 1" + "+1".repeat(17) + ";takes 1" + "-1".repeat(13) + ";crumples");
+                Bounds.rule(x, "irons 3;takes 4;crumples 5;");
+            }, x -> x.told(0, told));
+        }
     }
 
     private static void tokens() {
@@ -98,6 +127,10 @@ public final class TermsTextTests {
         fault("irons z" + REST, 6);
         fault("irons heaz" + REST, 6);
         fault("irons zeat" + REST, 6);
+        fault("irons zheat" + REST, 6);
+        fault("irons aheat" + REST, 6);
+        fault("irons heata" + REST, 6);
+        fault("irons heatz" + REST, 6);
         fault("irons `" + REST, 6);
         fault("irons {" + REST, 6);
         fault("irons heat`" + REST, 10);
@@ -299,8 +332,8 @@ public final class TermsTextTests {
     }
 
     private static void faultPlaces() {
-        B.sentence(TERMS, "FAULT: the place of the first byte of the first TOKEN that can't stand there (the text's size, if"
-                + " it ends too early)");
+        B.sentence(TERMS, "FAULT: the place of the first byte of the first TOKEN that can't stand there (the text's"
+                + " size, if it ends too early)");
         B.due("of no bytes", -100, Bounds.NEW, x -> x.text());
         fault(" ", 1);
         fault("\n\n", 2);
@@ -321,7 +354,8 @@ public final class TermsTextTests {
     }
 
     private static void faultyTokens() {
-        B.sentence(TERMS, "also of a byte that begins none, a WORD that is neither KEY nor NAME, a NUMBER that is too long");
+        B.sentence(TERMS, "also of a byte that begins none, a WORD that is neither KEY nor NAME, a NUMBER that is"
+                + " too long");
         String begins = "();+-*<= \nabcdefghijklmnopqrstuvwxyz0123456789";
         for (int letter = 0; letter < 256; letter++) {
             if (begins.indexOf(letter) < 0) {
@@ -340,8 +374,8 @@ public final class TermsTextTests {
     }
 
     private static void openBrackets() {
-        B.sentence(TERMS, "a ( , a not, a - ahead of a ONE while 5 of these are open (a ( till its ) , not and - till what"
-                + " they belong to ends)");
+        B.sentence(TERMS, "a ( , a not, a - ahead of a ONE while 5 of these are open (a ( till its ) , not and -"
+                + " till what they belong to ends)");
         tells("(((((7)))))", 7);
         fault("irons ((((((7))))))" + REST, 11);
         tells("(((((7))))) + (((((8)))))", 15);
@@ -399,6 +433,23 @@ public final class TermsTextTests {
             }, x -> Bounds.text(x, "irons 9" + REST));
         }
         B.refused("a seventh", -4, Bounds.BRIMFUL, x -> x.text());
+        Bounds.Calls four = x -> {
+            x.part(0, 0);
+            for (int i = 1; i < 5; i++) {
+                Bounds.text(x, "irons " + i + "+1".repeat(30) + ";takes 1;crumples " + i + "+1".repeat(i) + ";");
+            }
+        };
+        for (int text = 1; text < 5; text++) {
+            int t = text;
+            B.due("four long ones tell their own: " + t, 30 + t, four, x -> {
+                x.force(t);
+                return x.told(0, 7);
+            });
+            B.due("four long ones tell their own to the end: " + t, 2 * t, four, x -> {
+                x.force(t);
+                return x.told(0, 9);
+            });
+        }
         B.due("all six tell their own", 123456, x -> {
             x.part(0, 0);
             x.set(0, 0, 8);
@@ -426,7 +477,8 @@ public final class TermsTextTests {
     }
 
     private static void minuteAndDamp() {
-        B.sentence(TERMS, "minute: MINUTES that are over; damp: how DAMP it is by then (DAMP less MINUTES, 0 at least)");
+        B.sentence(TERMS, "minute: MINUTES that are over; damp: how DAMP it is by then (DAMP less MINUTES, 0 at"
+                + " least)");
         B.due("minute 0", 0, twoParts(5, "minute"), x -> x.plain(10));
         B.due("minute 5", 5, twoParts(5, "minute"), x -> x.plain(11));
         B.due("DAMP is one more than MINUTES", 1, twoParts(6, "damp"), x -> x.plain(11));

@@ -88,7 +88,8 @@ public final class TermsThingsTests {
     private static void parts() {
         B.sentence(TERMS, "PARTS (7 at most, numbered from 0)");
         for (int many = 0; many < 7; many++) {
-            B.due("with " + many + " there is room, and that is its number", many, Bounds.parts(many), x -> x.part(0, 0));
+            B.due("with " + many + " there is room, and that is its number", many, Bounds.parts(many),
+                    x -> x.part(0, 0));
         }
         B.refused("an eighth", -4, Bounds.BRIMFUL, x -> x.part(0, 0));
         B.due("an eighth by a SHEET", 0, x -> {
@@ -101,8 +102,8 @@ public final class TermsThingsTests {
     }
 
     private static void kinds() {
-        B.sentence(TERMS, "0 PART, 1 COLLAR under PART, 2 SLEEVE under PART, 3 YOKE under COLLAR, 4 CUFF under SLEEVE, 5"
-                + " POCKET under PART");
+        B.sentence(TERMS, "0 PART, 1 COLLAR under PART, 2 SLEEVE under PART, 3 YOKE under COLLAR, 4 CUFF under"
+                + " SLEEVE, 5 POCKET under PART");
         for (int k = 0; k < 6; k++) {
             int kind = k;
             B.due("KIND " + kind, kind, x -> x.part(kind, 0), x -> x.told(0, 5));
@@ -110,7 +111,8 @@ public final class TermsThingsTests {
             for (int over = 0; over < 6; over++) {
                 int other = over;
                 int want = under.indexOf('0' + other) >= 0 ? 7 : -13;
-                B.changesNothing("KIND " + kind + " under " + other, want, x -> x.part(kind, 7), x -> x.taken(0, other));
+                B.changesNothing("KIND " + kind + " under " + other, want, x -> x.part(kind, 7),
+                        x -> x.taken(0, other));
             }
         }
         B.refused("the first below", -2, Bounds.SOME, x -> x.part(-1, 0));
@@ -271,8 +273,8 @@ public final class TermsThingsTests {
     }
 
     private static void hostRefusals() {
-        B.sentence(TERMS, "-11 nothing where something is asked, -12 a place outside, -13 a thing of another sort or KIND,"
-                + " -14 a size below 0");
+        B.sentence(TERMS, "-11 nothing where something is asked, -12 a place outside, -13 a thing of another sort"
+                + " or KIND, -14 a size below 0");
         B.refused("-11 ahead of -13, -12: copy", -11, Bounds.SOME, x -> x.copy(0, -1, 3, -1, -1));
         B.refused("-13 ahead of -12: copy", -13, Bounds.SOME, x -> x.copy(0, -1, 1, -1, -1));
         B.refused("-12: copy", -12, Bounds.SOME, x -> x.copy(0, -1, 0, 0, 1));
@@ -286,7 +288,8 @@ public final class TermsThingsTests {
     }
 
     private static void keepsOfPart() {
-        B.sentence(TERMS, "PART: v; COLLAR: half (cut) of a PART's; SLEEVE: NUMBER more than a PART; YOKE: as a COLLAR;");
+        B.sentence(TERMS, "PART: v; COLLAR: half (cut) of a PART's; SLEEVE: NUMBER more than a PART; YOKE: as a"
+                + " COLLAR;");
         keeps("a PART's least", 0, 0, 9, 99, "0");
         keeps("a PART's most", 99, 0, 9, 0, "99");
         keeps("a COLLAR's least", 0, 1, 9, 99, "0");
@@ -323,8 +326,8 @@ public final class TermsThingsTests {
     }
 
     private static void takes() {
-        B.sentence(TERMS, "PART: v; COLLAR: twice a PART's; SLEEVE: as a PART; YOKE: NUMBER more than a COLLAR; CUFF: half"
-                + " (cut) of a SLEEVE's; POCKET: 1. CRUMPLES");
+        B.sentence(TERMS, "PART: v; COLLAR: twice a PART's; SLEEVE: as a PART; YOKE: NUMBER more than a COLLAR;"
+                + " CUFF: half (cut) of a SLEEVE's; POCKET: 1. CRUMPLES");
         takes("a PART's least", 1, 0, 9, "1");
         takes("a PART's most", 30, 0, 9, "30");
         takes("a COLLAR's", 2, 1, 9, "1");
@@ -341,8 +344,8 @@ public final class TermsThingsTests {
     }
 
     private static void crumples() {
-        B.sentence(TERMS, "PART: v; COLLAR: 2 less than a PART; SLEEVE: twice a PART's; YOKE: as a COLLAR; CUFF: as a"
-                + " SLEEVE; POCKET: 0. SHOWS");
+        B.sentence(TERMS, "PART: v; COLLAR: 2 less than a PART; SLEEVE: twice a PART's; YOKE: as a COLLAR; CUFF: as"
+                + " a SLEEVE; POCKET: 0. SHOWS");
         int[] most = {99, 97, 198, 97, 198, 0};
         int[] ofOne = {1, 0, 2, 0, 2, 0};
         int[] ofThree = {3, 1, 6, 1, 6, 0};
@@ -355,8 +358,8 @@ public final class TermsThingsTests {
     }
 
     private static void shows() {
-        B.sentence(TERMS, "SHOWS: PART: 1; COLLAR: 3 times a PART's; SLEEVE: as a PART; YOKE: 1 less than a COLLAR; CUFF: 1"
-                + " more than a SLEEVE; POCKET: as a PART");
+        B.sentence(TERMS, "SHOWS: PART: 1; COLLAR: 3 times a PART's; SLEEVE: as a PART; YOKE: 1 less than a COLLAR;"
+                + " CUFF: 1 more than a SLEEVE; POCKET: as a PART");
         int[] want = {1, 3, 1, 2, 2, 1};
         for (int kind = 0; kind < 6; kind++) {
             int k = kind;

@@ -32,8 +32,8 @@ public final class ToldBoundsTests {
     }
 
     private static void tells() {
-        B.sentence("Promise 18", "TOLD: who isn't so (what 0), HEATS (1), TEXTS (2), KINDS of PART what modulo 10 (10 ..),"
-                + " NUMBERS (20 ..), CREASES: how many (30 ..), the least (40 ..; NONE).");
+        B.sentence("Promise 18", "TOLD: who isn't so (what 0), HEATS (1), TEXTS (2), KINDS of PART what modulo 10"
+                + " (10 ..), NUMBERS (20 ..), CREASES: how many (30 ..), the least (40 ..; NONE).");
         for (int t = 0; t < 3; t++) {
             int sort = t;
             B.changesNothing("no PARTS: nobody", 0, told(0, sort), x -> x.tells(0, 0));
@@ -71,7 +71,8 @@ public final class ToldBoundsTests {
         for (int none : new int[] {LOWEST, -1, 4, 5, HIGHEST}) {
             B.refused("SHEET " + none, -2, Bounds.SOME, x -> x.tells(none, 0));
         }
-        for (int what : new int[] {LOWEST, -1, 3, 9, 13, 19, 23, 29, 33, 39, 43, 47, 49, 50, 51, 60, 100, 110, HIGHEST}) {
+        for (int what : new int[] {LOWEST, -1, 3, 9, 13, 19, 23, 29, 33, 39, 43, 47, 49, 50, 51, 60, 100, 110,
+                HIGHEST}) {
             B.refused("what " + what, -2, Bounds.SOME, x -> x.tells(0, what));
             B.refused("what " + what + " of a missing one: ahead of -11", -2, Bounds.SOME, x -> x.tells(3, what));
             B.refused("what " + what + " of another size", -2, Bounds.SOME, x -> x.tells(1, what));
@@ -80,7 +81,8 @@ public final class ToldBoundsTests {
             B.refused("a missing one, what " + what, -11, Bounds.SOME, x -> x.tells(3, what));
         }
         B.refused("a missing one, no PARTS", -11, Bounds.NEW, x -> x.tells(0, 0));
-        B.refused("one that is missing again", -11, Bounds.then(Bounds.SOME, x -> x.sheet(0, -1, 3)), x -> x.tells(0, 0));
+        B.refused("one that is missing again", -11, Bounds.then(Bounds.SOME, x -> x.sheet(0, -1, 3)),
+                x -> x.tells(0, 0));
     }
 
     private static void tellsWhat() {
@@ -331,8 +333,8 @@ public final class ToldBoundsTests {
     }
 
     private static void count() {
-        B.sentence("Promise 24", "How many: 0 PARTS, 1 TEXTS, 2 bytes of THE TAPE, 3 THE RULE, 4 CREASES of all times SHOWS,"
-                + " together.");
+        B.sentence("Promise 24", "How many: 0 PARTS, 1 TEXTS, 2 bytes of THE TAPE, 3 THE RULE, 4 CREASES of all"
+                + " times SHOWS, together.");
         int[] least = {0, 1, 0, 0, 0};
         int[] some = {3, 3, 26, 2, 70 + 33 + 3 * 50};
         // 50 of a PART; 91 of a PART, 92 of a COLLAR, 93 of a SLEEVE, 94 of a YOKE, 95 of a CUFF, 96 of a POCKET
@@ -341,7 +343,8 @@ public final class ToldBoundsTests {
             int what = item;
             B.changesNothing("what " + what + " of a new object", least[what], Bounds.NEW, x -> x.count(what));
             B.changesNothing("what " + what + " of some of all", some[what], Bounds.SOME, x -> x.count(what));
-            B.changesNothing("what " + what + " where nothing has room", most[what], Bounds.BRIMFUL, x -> x.count(what));
+            B.changesNothing("what " + what + " where nothing has room", most[what], Bounds.BRIMFUL,
+                    x -> x.count(what));
         }
         B.due("the most CREASES", 7 * 3 * 99, x -> {
             for (int i = 0; i < 7; i++) {
