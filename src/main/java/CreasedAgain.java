@@ -27,7 +27,7 @@ public final class CreasedAgain {
     private final Shirt trial = new Shirt();
     private final Texts texts = new Texts();
     private final Reader reader = new Reader();
-    private final Ironing ironing = new Ironing(texts);
+    private final Ironing ironing = new Ironing(texts, now);
     private final Search search = new Search(ironing, trial);
     private final Sheets sheets = new Sheets();
     private boolean hasImage;
@@ -911,8 +911,9 @@ public final class CreasedAgain {
         private int minute;
         private int sprayedAt;
 
-        Ironing(Texts texts) {
+        Ironing(Texts texts, Shirt first) {
             this.texts = texts;
+            shirt = first;
         }
 
         void clear() {

@@ -108,17 +108,22 @@ public final class HouseTests {
         TALLY.due("bytes of all calls: " + (used - made), used - made < 1000 ? 1 : 0, 1);
     }
 
+    private static void write(CreasedAgain x, String text) {
+        for (int i = 0; i < text.length(); i++) {
+            x.feed(text.charAt(i));
+        }
+    }
+
     /** Every call, with all parts. */
     private static void full(CreasedAgain x) {
         for (int i = 0; i < 7; i++) {
             x.part(i % 6, i);
             x.set(4, i, 127);
         }
-        for (int i = 0; i < 7; i++) {
-            x.feed("irons heat;takes 1;crumples 1;".charAt(i));
-        }
+        write(x, "irons not(heat<3)*9-minute or crease;takes 1+2*damp=part;crumples -number and 1;");
+        x.force(x.text());
+        write(x, "irons 12345");
         x.text();
-        x.force(1);
         x.image();
         for (int what = 0; what < 50; what++) {
             x.plain(what);
@@ -153,7 +158,11 @@ public final class HouseTests {
         Method[] methods = CreasedAgain.class.getMethods();
         for (int run = 0; run < 200; run++) {
             CreasedAgain x = new CreasedAgain();
-            for (int call = 0; call < 512; call++) {
+            if (run % 2 == 0) {
+                write(x, "irons 99-minute*crease*crease;takes -(damp-heat);crumples part<number or 9999*9999;");
+                x.force(x.text());
+            }
+            for (int call = 0; call < 400; call++) {
                 Method m = methods[random.nextInt(methods.length)];
                 if (m.getDeclaringClass() != CreasedAgain.class) {
                     continue;
